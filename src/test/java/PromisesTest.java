@@ -17,9 +17,11 @@ public final class PromisesTest {
         promise4Wrong();
         promise4Indexes();
         promise4Agreement();
+        promise4Greatest();
         promise4Refused();
         promise4LateRefusal();
         promise5();
+        promise5Wrong();
         promise5Edges();
         promise6();
         promise7();
@@ -147,6 +149,21 @@ public final class PromisesTest {
         deliverAll(x);
         work("late answers count for nothing", x, 2, 2, 1, 0, 1, 7, 7, 6, 1, 0, 0);
         C.same("writes", x.count(2), 3);
+
+        QuorumNodes y = new QuorumNodes(3, 2, 2);
+        y.write(0, 1, 7);
+        y.deliver(0);
+        y.deliver(1);
+        loseAll(y);
+        y.crash(0);
+        y.restart(0);
+        C.same("read", y.read(0, 1), 2);
+        work("BEST is its own at first", y, 0, 2, 1, 1, 1, 0, 7, 1, 1, 0, 0);
+        y.deliver(0);
+        y.deliver(1);
+        work("what is less does not become BEST", y, 0, 2, 1, 2, 1, 0, 7, 1, 1, 0, 0);
+        deliverAll(y);
+        work("DONE", y, 0, 2, 1, 0, 1, 7);
 
         QuorumNodes one = alone();
         C.same("read alone", one.read(0, 3), 1);
@@ -392,6 +409,7 @@ public final class PromisesTest {
         x.deliver(1);
         letter("ACCEPT of this", x, 1, 7, 2, 0, 1, 2, 1, 10, code(1, 1, 1), 0, 0);
         x.deliver(1);
+        mapIs("ACCEPTED by a greater ballot", x, 0, 1, 0, 0, 10, 10, code(1, 1, 1));
         x.deliver(2);
         work("DONE, but not its own", x, 2, 2, 3, 0, 1, 0, 7, 5, 0, 0, 10);
         mapIs("the first one's", x, 2, 1, 1, code(1, 1, 1), 10, 10, code(1, 1, 1));
@@ -401,6 +419,50 @@ public final class PromisesTest {
         x.deliver(0);
         work("DONE as it LOOKS, its own", x, 0, 1, 3, 0, 1, 1, 7, 1, 0, 0, 8);
         C.same("not again", x.again(0), NONE);
+    }
+
+    /** Nodes 0 and 1 have ACCEPTED two configurations by ballots 8 and 9; the greater one goes on. */
+    private static void promise4Greatest() {
+        for (int order = 0; order < 2; order++) {
+            QuorumNodes x = new QuorumNodes(5, 3, 3);
+            for (int node = 0; node < 2; node++) {
+                x.propose(node, 1 << node, 1, 1);
+                x.deliver(1);
+                x.deliver(1);
+                x.deliver(2);
+                x.deliver(2);
+                mapIs("ACCEPTED alone", x, node, 1, 0, 0, 8 + node, 8 + node, code(1 << node, 1, 1));
+                loseAll(x);
+            }
+            C.same("propose", x.propose(4, 16, 1, 1), 3);
+            x.deliver(0);
+            x.deliver(0);
+            letter("PROMISE", x, 2, 6, 0, 4, 1, 1, 1, 8, code(1, 1, 1));
+            letter("PROMISE", x, 3, 6, 1, 4, 1, 1, 1, 9, code(2, 1, 1));
+            x.deliver(2 + order);
+            x.deliver(2);
+            letter("ACCEPT", x, 2, 7, 4, 0, 1, 2, 1, 12, code(2, 1, 1));
+        }
+
+        QuorumNodes y = new QuorumNodes(4, 3, 2);
+        y.propose(0, 1, 1, 1);
+        y.deliver(0);
+        y.deliver(0);
+        y.deliver(1);
+        y.deliver(1);
+        mapIs("ACCEPTED alone", y, 0, 1, 0, 0, 8, 8, code(1, 1, 1));
+        loseAll(y);
+        y.propose(3, 8, 1, 1);
+        y.deliver(0);
+        y.deliver(2);
+        work("has found it", y, 3, 2, 3, 1, 1, 0, 15, 9);
+        loseAll(y);
+        y.again(3);
+        y.deliver(1);
+        y.deliver(1);
+        y.deliver(1);
+        y.deliver(1);
+        letter("what it found is no answer of the new phase", y, 1, 7, 3, 0, 1, 3, 1, 19, code(8, 1, 1));
     }
 
     private static void promise4Refused() {
@@ -544,6 +606,19 @@ public final class PromisesTest {
         C.same("one alone", x.retire(0), NONE);
     }
 
+    private static void promise5Wrong() {
+        QuorumNodes x = alone(2);
+        x.read(0, 0);
+        C.same("has a task", x.retire(0), NONE);
+        x.crash(0);
+        C.same("DOWN", x.retire(0), NONE);
+        x.restart(0);
+        x.join(1, 0);
+        C.same("no ACTIVE configuration", x.retire(1), NONE);
+        C.same("tasks", x.count(1), 2);
+        C.same("retire", x.retire(0), 3);
+    }
+
     private static void promise5Edges() {
         QuorumNodes x = alone(1, 1);
         x.arm(0, 2);
@@ -671,6 +746,11 @@ public final class PromisesTest {
         mapIs("told", x, 3, 0, 1, code(7, 2, 2));
         C.same("MAP and one cell", x.count(2), writes + 2);
         C.same("no answer", x.count(0), 0);
+        x.read(1, 1);
+        loseAll(x);
+        x.gossip(3, 1);
+        x.deliver(0);
+        cellIs("with the sender's cells", x, 1, 0, 1, 0, 4);
         C.yes("to one that is DOWN", x.gossip(3, 0));
         C.yes("to one that is ABSENT", x.gossip(3, 7));
     }
@@ -814,7 +894,11 @@ public final class PromisesTest {
         letter("the answer", x, 119, 2, 1, 0);
         C.yes("lose", x.lose(119));
         C.no("lose", x.lose(119));
+        C.yes("gossip", x.gossip(2, 0));
+        C.yes("lose", x.lose(117));
+        letter("the last one moves up", x, 118, 14, 2, 0);
         C.yes("twice", x.twice(118));
+        letter("the last one twice", x, 119, 14, 2, 0);
     }
 
     private static void promise12And13() {
