@@ -2,12 +2,18 @@
 final class Checks {
     private int wrong = 0;
     private int made = 0;
+    private String title = "";
+
+    /** All that is compared from now on is printed under this title. */
+    void begin(String itsTitle) {
+        title = itsTitle + ": ";
+    }
 
     void same(String call, long got, long due) {
         made++;
         if (got != due) {
             wrong++;
-            System.out.println(call + " answered " + got + ", due is " + due);
+            System.out.println(title + call + " answered " + got + ", due is " + due);
         }
     }
 
@@ -21,6 +27,10 @@ final class Checks {
 
     int wrong() {
         return wrong;
+    }
+
+    int made() {
+        return made;
     }
 
     void end() {

@@ -1,11 +1,5 @@
 /** For each promise of the document runs of calls whose answers were worked out by hand from its words. */
-public final class PromisesTest {
-    private static final int NONE = QuorumNodes.NONE, DOWN = QuorumNodes.DOWN;
-    private static final int LEAST = Integer.MIN_VALUE, MOST = Integer.MAX_VALUE;
-    private static final int[] NO_NODES = {-1, 8, LEAST, MOST};
-
-    private static final Checks C = new Checks();
-
+public final class PromisesTest extends Runs {
     public static void main(String[] args) {
         promise1();
         promise2Ordinary();
@@ -39,62 +33,6 @@ public final class PromisesTest {
         promise19();
         promise20();
         C.end();
-    }
-
-    private static int code(int set, int r, int w) {
-        return set + 256 * r + 4096 * w;
-    }
-
-    /** Node 0 alone at index 0, the sets behind it ACTIVE too, all known to node 0 alone. */
-    private static QuorumNodes alone(int... sets) {
-        QuorumNodes x = new QuorumNodes(1, 1, 1);
-        for (int set : sets) {
-            x.propose(0, set, 1, Integer.bitCount(set));
-        }
-        return x;
-    }
-
-    private static void deliverAll(QuorumNodes x) {
-        for (int i = 0; i < 500 && x.deliver(0) != NONE; i++) {
-            continue;
-        }
-    }
-
-    private static void loseAll(QuorumNodes x) {
-        for (int i = 0; i < 120 && x.lose(0); i++) {
-            continue;
-        }
-    }
-
-    /** How a message looks: kind, from, to, and what 3 to 9 answer. */
-    private static void letter(String name, QuorumNodes x, int i, int... due) {
-        for (int what = 0; what < due.length; what++) {
-            C.same(name + ": message(" + i + ", " + what + ")", x.message(i, what), due[what]);
-        }
-    }
-
-    private static void work(String name, QuorumNodes x, int node, int... due) {
-        for (int what = 0; what < due.length; what++) {
-            C.same(name + ": task(" + node + ", " + what + ")", x.task(node, what), due[what]);
-        }
-    }
-
-    private static void cellIs(String name, QuorumNodes x, int node, int object, int... due) {
-        for (int what = 0; what < due.length; what++) {
-            C.same(name + ": cell(" + node + ", " + object + ", " + what + ")", x.cell(node, object, what), due[what]);
-        }
-    }
-
-    private static void mapIs(String name, QuorumNodes x, int node, int index, int... due) {
-        for (int what = 0; what < due.length; what++) {
-            C.same(name + ": map(" + node + ", " + index + ", " + what + ")", x.map(node, index, what), due[what]);
-        }
-    }
-
-    private static void nodeIs(String name, QuorumNodes x, int node, int... due) {
-        for (int what = 0; what < due.length; what++) {
-            C.same(name + ": node(" + node + ", " + what + ")", x.node(node, what), due[what]);
-        }
     }
 
     private static void promise1() {
