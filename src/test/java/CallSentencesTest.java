@@ -89,8 +89,9 @@ public final class CallSentencesTest extends Runs {
         QuorumNodes x = new QuorumNodes(2, 1, 2);
         fill(x, 0, 1, 120);
         C.same("none is lost so far", x.count(4), 0);
-        C.yes("the 121st", x.gossip(0, 1));
+        C.yes("the 121st", x.gossip(1, 0));
         countIs("it is lost", x, 120, 0, 0, 2, 1);
+        letter("the last one is as before", x, 119, GOSSIP, 0, 1);
     }
 
     // ---- promise 8
@@ -121,6 +122,7 @@ public final class CallSentencesTest extends Runs {
         C.yes("the 121st", x.join(7, 0));
         C.same("UP", x.node(7, 0), 1);
         countIs("it is lost", x, 120, 0, 0, 3, 1);
+        letter("the last one is as before", x, 119, GOSSIP, 0, 1);
     }
 
     @Says("False: there are none such")
@@ -238,31 +240,35 @@ public final class CallSentencesTest extends Runs {
 
     @Says("Message i arrives: 1 (also if the node goes down by it)")
     static void promise9_messageIInAnyOrder() {
-        QuorumNodes x = new QuorumNodes(4, 4, 1);
+        QuorumNodes x = new QuorumNodes(5, 5, 1);
         x.read(0, 0);
-        C.same("the last one first", x.deliver(2), 1);
+        C.same("the last one first", x.deliver(3), 1);
         letter("those ahead of it stay", x, 0, QUERY, 0, 1);
-        letter("those ahead of it stay", x, 1, QUERY, 0, 2);
-        letter("its answer", x, 2, ANSWER, 3, 0);
-        C.same("the one between", x.deliver(1), 1);
+        letter("those ahead of it stay", x, 2, QUERY, 0, 3);
+        letter("its answer", x, 3, ANSWER, 4, 0);
+        C.same("one between", x.deliver(1), 1);
         letter("the first one stays", x, 0, QUERY, 0, 1);
-        letter("those behind move up", x, 1, ANSWER, 3, 0);
-        letter("its answer", x, 2, ANSWER, 2, 0);
+        letter("those behind move up", x, 1, QUERY, 0, 3);
+        letter("those behind move up", x, 2, ANSWER, 4, 0);
+        letter("its answer", x, 3, ANSWER, 2, 0);
     }
 
     // ---- promise 10
 
     @Says("Message i is lost")
     static void promise10_messageIIsLost() {
-        QuorumNodes x = new QuorumNodes(4, 4, 1);
+        QuorumNodes x = new QuorumNodes(5, 5, 1);
         x.read(0, 0);
-        C.yes("the one between", x.lose(1));
+        C.yes("one between", x.lose(1));
         letter("ahead of it", x, 0, QUERY, 0, 1);
         letter("behind it", x, 1, QUERY, 0, 3);
-        C.yes("the last one", x.lose(1));
+        letter("behind it", x, 2, QUERY, 0, 4);
+        C.yes("the last one", x.lose(2));
         C.yes("the first one", x.lose(0));
-        countIs("none was lost for want of room", x, 0, 1, 0, 4, 0);
-        work("those ASKED stay so", x, 0, 1, 1, 1, 0, 0, 15, 1);
+        letter("the one that is left", x, 0, QUERY, 0, 3);
+        C.yes("the only one", x.lose(0));
+        countIs("none was lost for want of room", x, 0, 1, 0, 5, 0);
+        work("those ASKED stay so", x, 0, 1, 1, 1, 0, 0, 31, 1);
     }
 
     @Says("false if there is none")
@@ -285,6 +291,7 @@ public final class CallSentencesTest extends Runs {
         refused("behind the last one", x, 0, y -> y.lose(120));
         C.yes("the last one", x.lose(119));
         C.same("119 are left", x.count(0), 119);
+        refused("there is none now", x, 0, y -> y.lose(119));
         C.yes("gossip", x.gossip(0, 1));
         countIs("there was room", x, 120, 0, 0, 2, 0);
     }
@@ -447,6 +454,7 @@ public final class CallSentencesTest extends Runs {
         C.yes("1", x.arm(0, 1));
         C.same("armed", x.node(0, 6), 1);
         C.same("its next write", x.write(0, 0, 5), DOWN);
+        cellIs("it is not written", x, 0, 0, 0, 0, 0);
     }
 
     @Says("A node is armed with n (1 to 100)")

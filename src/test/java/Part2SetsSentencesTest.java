@@ -432,15 +432,16 @@ public final class Part2SetsSentencesTest extends Runs {
         mapIs("index 1", y, 0, 1, 2);
     }
 
-    /** Index 3 comes and indexes 0 to 2 go while node 0 waits for index 2's node. */
+    /** Index 3 (node 2) comes and indexes 0 to 2 go while node 0 waits for index 2's node, 1. */
     @Says("both stay so")
     static void part2_retirement_bothStaySo() {
         QuorumNodes x = alone(1, 2);
         x.join(1, 0);
+        x.join(2, 0);
         deliverAll(x);
         x.retire(0);
         loseAll(x);
-        x.propose(1, 2, 1, 1);
+        x.propose(1, 4, 1, 1);
         x.retire(1);
         deliverAll(x);
         mapIs("1 has given up index 2", x, 1, 2, 2);
@@ -449,9 +450,9 @@ public final class Part2SetsSentencesTest extends Runs {
         x.deliver(0);
         nodeIs("0 has heard of it", x, 0, 1, 1, 2, 3, 3, serial, 0);
         work("TARGET", x, 0, 3, 4, 2, 2, 0, 2, 0);
-        x.again(0);
+        C.same("again", x.again(0), 1);
         int before = x.count(2);
-        deliverAll(x);
+        exchange(x, SPREAD, 0, 1);
         work("two were OLD", x, 0, 3, 4, 0, 2, 2, 2, 2);
         mapIs("index 3 is not touched", x, 0, 3, 1);
         C.same("no write", x.count(2), before);

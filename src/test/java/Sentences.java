@@ -20,12 +20,15 @@ final class Sentences {
 
     private Sentences(Checks itsChecks) throws IOException {
         checks = itsChecks;
-        document = plain(Files.readString(DOCUMENT));
+        document = Files.isReadable(DOCUMENT) ? plain(Files.readString(DOCUMENT)) : "";
     }
 
     /** All tests of the class, or with arguments those that these name. */
     static void run(Class<?> tests, String[] names, Checks checks) throws IOException {
         Sentences sentences = new Sentences(checks);
+        if (sentences.document.isEmpty()) {
+            System.out.println(DOCUMENT + " is not here: where the sentences stand was not looked up");
+        }
         List<Method> methods = new ArrayList<>();
         for (Method method : tests.getDeclaredMethods()) {
             if (method.isAnnotationPresent(Says.class) && (names.length == 0 || List.of(names).contains(method.getName()))) {
@@ -44,7 +47,9 @@ final class Sentences {
         String words = method.getAnnotation(Says.class).value();
         String where = method.getName().substring(0, method.getName().indexOf('_'));
         checks.begin(method.getName() + " ('" + words + "')");
-        checks.yes("the sentence stands under " + where, part(where).contains(plain(words)));
+        if (!document.isEmpty()) {
+            checks.yes("the sentence stands under " + where, part(where).contains(plain(words)));
+        }
         int made = checks.made();
         try {
             method.invoke(null);
